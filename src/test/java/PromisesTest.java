@@ -25,6 +25,7 @@ public final class PromisesTest {
         bestAfterChanges();
         desk();
         deskNames();
+        deskByTextZero();
         hold();
         waits();
         refuse();
@@ -318,6 +319,11 @@ public final class PromisesTest {
         x.come(0, 1);
         x.slip(SONG, 90, 0);
         due("9: bar 2, mood 1", x.evening(1, 5), 3);
+        x = houseBy("bears sort*50; takes 1; first 0;");
+        x.come(0, 0);
+        x.come(0, 1);
+        x.slip(BOUGHT, 10, 0);
+        due("9: of one sort is 0", x.evening(1, 5), 1);
         x = houseBy("bears 12-sung*9-waited; takes 1; first 0;");
         x.come(0, 0);
         x.come(0, 1);
@@ -418,6 +424,11 @@ public final class PromisesTest {
         due("10: after force", x.best(0, 0), 2);
         x.back();
         due("10: after back", x.best(0, 0), 14);
+        due("10: two are SUNG", x.best(1, 2), 2);
+        x.set(6, 0, 1);
+        due("10: one is SUNG, with the other behind it", x.best(1, 2), 1);
+        due("10: the row", x.best(1, 3), 1);
+        x.back();
         x.hold(1);
         due("10: after hold", x.best(0, 0), 18);
         x.sheet(0, 0, 3);
@@ -476,6 +487,25 @@ public final class PromisesTest {
         x.slip(SLOW, 10, 0);
         due("11: bar, mood, minute ahead of it", x.desk(6), 213);
         due("11: then", x.desk(0), 3 + 3);
+    }
+
+    /** TEXT 0: by its first the groups sing in turn, whatever a song counts there. */
+    private static void deskByTextZero() {
+        WhoSingsNext x = new WhoSingsNext();
+        x.come(0, 0);
+        x.come(99, 1);
+        x.come(99, 2);
+        x.slip(SONG, 10, 1);
+        x.slip(SONG, 10, 1);
+        x.slip(SONG, 10, 2);
+        x.slip(SONG, 10, 1);
+        x.slip(SONG, 10, 2);
+        x.slip(SONG, 10, 0);
+        due("11: in turn", x.desk(6), 136254);
+        x.set(3, 0, 9);
+        due("11: bears 10", x.evening(12, 1), 0);
+        due("11: and no more", x.evening(123, 1), 1);
+        due("11: 2 and mood", x.evening(1, 0), 3 * 3);
     }
 
     private static void hold() {
@@ -889,6 +919,10 @@ public final class PromisesTest {
         due("28: of another sort, none asked", x.slips(0, 0, 99, 0), OTHER);
         due("28: none", x.slips(0, 1, 99, 0), 0);
         x.come(9, 0);
+        x.image();
+        x.cell(0, 1, 10);
+        due("28: slip 0 comes, too", x.slips(0, 1, 0, 1), 1);
+        x.back();
         int[] row = {99, DARING, 57, 0, ROAD, 16, 0, BOUGHT};
         for (int i = 0; i < row.length; i++) {
             x.cell(0, i, row[i]);

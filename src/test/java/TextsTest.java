@@ -46,6 +46,10 @@ public final class TextsTest {
         fault("notminute", 0);
         fault("minutes", 0);
         fault("minut", 0);
+        fault("winute", 0);
+        fault("1 xr 2", 2);
+        fault("1 orz 2", 2);
+        fault("1 zor 2", 2);
         fault("Minute", 0);
         fault("mOod", 0);
         fault("1 > 2", 2);
