@@ -673,11 +673,17 @@ public final class WhoSingsNext {
             next = 0;
             fault = NONE;
             readToken();
-            readPart(BEARS);
+            pass(BEARS);
+            readLevel(OR_LEVEL, 0);
+            pass(';');
             takesAt = codes;
-            readPart(TAKES);
+            pass(TAKES);
+            readLevel(OR_LEVEL, 0);
+            pass(';');
             firstAt = codes;
-            readPart(FIRST);
+            pass(FIRST);
+            readLevel(OR_LEVEL, 0);
+            pass(';');
             if (token != END) {
                 fail();
             }
@@ -687,12 +693,6 @@ public final class WhoSingsNext {
 
         Text made() {
             return new Text(Arrays.copyOf(code, codes), takesAt, firstAt);
-        }
-
-        private void readPart(int key) {
-            pass(key);
-            readLevel(OR_LEVEL, 0);
-            pass(';');
         }
 
         private void pass(int wanted) {
@@ -765,7 +765,12 @@ public final class WhoSingsNext {
             } else if (token == '(' && open < MOST_OPEN) {
                 readToken();
                 readLevel(OR_LEVEL, open + 1);
-                pass(')');
+                // Not by pass(..), so that calls stay eight deep.
+                if (token != ')') {
+                    fail();
+                    return;
+                }
+                readToken();
             } else {
                 fail();
             }
