@@ -27,9 +27,13 @@ public final class EveningEdgesTest {
         bestOfSeven();
         bestOfLikeRows();
         bestByFewest();
+        bestByWhatWasSung();
+        bestOfEachGroup();
+        bestByFewestWhateverMoodIs();
         deskOfNone();
         deskPassesOver();
         deskOfLikeOnes();
+        deskByJustSoMuchWaited();
         waitOfEach();
         DUE.end("EveningEdgesTest");
     }
@@ -449,6 +453,67 @@ public final class EveningEdgesTest {
         due("10: one leaves by each but its own", x.best(1, 3), 3);
     }
 
+    /** Each row of all is an EVENING of its own: who sang when, and how often, is of that row alone. */
+    private static void bestByWhatWasSung() {
+        WhoSingsNext x = houseBy("bears sung*5;takes 1;first 0;");
+        x.come(99, 0);
+        x.come(0, 1);
+        x.slip(SONG, 50, 0);
+        x.slip(SONG, 10, 1);
+        x.slip(SONG, 10, 1);
+        due("10: once sung it bears 5", x.best(1, 3), 213);
+        due("10: nobody leaves", x.best(1, 1), 0);
+        due("10: all are SUNG", x.best(1, 2), 3);
+        x.set(3, 0, 9);
+        due("10: twice sung it bears 10", x.best(1, 3), 231);
+        x.set(3, 1, 9);
+        x.set(3, 2, 9);
+        x.set(6, 0, 26);
+        due("10: there is no room for the one that is borne", x.best(1, 3), 23);
+        x = houseBy("bears 10-sung*9;takes 1;first 0;");
+        x.come(0, 0);
+        x.come(0, 1);
+        x.slip(SONG, 10, 0);
+        x.slip(SONG, 10, 0);
+        x.slip(SONG, 10, 1);
+        due("10: nobody sings twice", x.best(1, 3), 13);
+    }
+
+    private static void bestOfEachGroup() {
+        for (int group = 0; group < 8; group++) {
+            WhoSingsNext x = houseBy("bears sung*9;takes 1;first 0;");
+            x.come(4, group);
+            x.come(99, (group + 1) % 8);
+            x.slip(SONG, 90, 1);
+            x.slip(SONG, 10, 0);
+            due("10: GROUP " + group + " bears 9 more by its song", x.best(1, 3), 21);
+            x = houseBy("bears 0;takes 1;first 0;");
+            x.come(4, group);
+            x.come(99, (group + 7) % 8);
+            x.slip(SONG, 40, 1);
+            x.slip(SONG, 40, 1);
+            x.slip(SONG, 10, 0);
+            due("10: GROUP " + group + " sings between the others", x.best(1, 3), 132);
+            due("10: all are SUNG", x.best(1, 2), 3);
+        }
+    }
+
+    /** By fewest, MOOD is nothing. */
+    private static void bestByFewestWhateverMoodIs() {
+        for (int mood : new int[] {-99, -1, 0, 1, 99}) {
+            WhoSingsNext x = houseBy("bears 0;takes 1;first 0;");
+            x.come(99, 0);
+            x.come(1, 1);
+            x.slip(ALONG, 11, 0);
+            x.slip(SLOW, 23, 0);
+            x.slip(SONG, 10, 1);
+            x.set(5, 0, mood);
+            due("10: MOOD " + mood + ", the row", x.best(1, 3), 13);
+            due("10: MOOD " + mood + ", LEFT", x.best(1, 1), 0);
+            due("10: MOOD " + mood + ", SUNG", x.best(1, 2), 2);
+        }
+    }
+
     private static void deskOfNone() {
         WhoSingsNext x = new WhoSingsNext();
         for (int what = 0; what < 7; what++) {
@@ -506,6 +571,25 @@ public final class EveningEdgesTest {
         x.slip(SONG, 10, 0);
         x.slip(SONG, 10, 1);
         due("11: waited since its GROUP sang", x.desk(6), 132);
+    }
+
+    /** waited of first is minutes, not only more or fewer than another's. */
+    private static void deskByJustSoMuchWaited() {
+        WhoSingsNext x = houseBy("bears 99;takes 3;first (waited=3)*sort-(waited=0)*(minute=3)*99;");
+        x.come(99, 0);
+        x.come(99, 1);
+        x.slip(SONG, 30, 0);
+        x.slip(SONG, 10, 1);
+        x.slip(ALONG, 10, 1);
+        x.slip(SLOW, 10, 0);
+        due("1: since the beginning, 3 minutes", x.desk(6), 1324);
+        x.set(3, 0, 2);
+        due("1: 2 minutes, then 0 at minute 3", x.desk(6), 1243);
+        x.set(5, 0, 2);
+        due("1: whatever MOOD is", x.desk(6), 1243);
+        x.set(3, 0, 3);
+        x.set(4, 1, 0);
+        due("1: 0 minutes since it sang", x.desk(6), 1324);
     }
 
     private static void waitOfEach() {

@@ -5,9 +5,12 @@ import java.lang.reflect.Method;
 import java.lang.reflect.Modifier;
 import java.nio.file.Files;
 import java.nio.file.Path;
+import java.util.ArrayList;
 import java.util.HashSet;
 import java.util.List;
+import java.util.Map;
 import java.util.Set;
+import java.util.TreeMap;
 import java.util.TreeSet;
 import java.util.regex.Matcher;
 import java.util.regex.Pattern;
@@ -22,6 +25,7 @@ public final class LanguageTest {
         String source = Files.readString(Path.of("src/main/java/WhoSingsNext.java"));
         words(source);
         lines(source);
+        depth(bodies(bare(source)));
         face();
         nested();
         DUE.end("LanguageTest");
@@ -68,6 +72,49 @@ public final class LanguageTest {
             DUE.due("rule 11: lines of " + head.group(2), end - i > 60 ? end - i : 0, 0);
             DUE.due("rule 11: parameters of " + head.group(2), head.group(3).split(",").length > 7 ? 1 : 0, 0);
         }
+    }
+
+    /** What each method says, by its name; those of like names are one here, so that depths come out too great, if at all. */
+    private static Map<String, String> bodies(String code) {
+        Map<String, String> bodies = new TreeMap<>();
+        Matcher head = Pattern.compile("(?ms)^( {4}| {8})(?=\\w)[\\w\\[\\] ]*?(\\w+)\\([^)\n]*\\) \\{$(.*?)^\\1\\}$").matcher(code);
+        while (head.find()) {
+            bodies.merge(head.group(2), head.group(3), String::concat);
+        }
+        return bodies;
+    }
+
+    private static void depth(Map<String, String> bodies) {
+        Map<String, Set<String>> calls = new TreeMap<>();
+        bodies.forEach((name, body) -> {
+            Set<String> called = new TreeSet<>();
+            Matcher call = Pattern.compile("\\b(\\w+)\\(").matcher(body);
+            while (call.find()) {
+                if (bodies.containsKey(call.group(1)) && !call.group(1).equals(name)) {
+                    called.add(call.group(1));
+                }
+            }
+            calls.put(name, called);
+        });
+        DUE.due("rule 11: the methods are seen", calls.size() > 80 && calls.containsKey("spells") ? 1 : 0, 1);
+        for (String name : calls.keySet()) {
+            List<String> deepest = deepest(name, calls, new ArrayList<>());
+            DUE.due("rule 11: how deep " + deepest, deepest.size() > 8 ? deepest.size() : 0, 0);
+        }
+    }
+
+    /** The longest chain of calls in which none comes twice. */
+    private static List<String> deepest(String name, Map<String, Set<String>> calls, List<String> open) {
+        open.add(name);
+        List<String> longest = new ArrayList<>(open);
+        for (String next : calls.get(name)) {
+            if (!open.contains(next)) {
+                List<String> chain = deepest(next, calls, open);
+                longest = chain.size() > longest.size() ? chain : longest;
+            }
+        }
+        open.remove(open.size() - 1);
+        return longest;
     }
 
     private static void face() {
